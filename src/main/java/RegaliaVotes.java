@@ -590,29 +590,33 @@ public final class RegaliaVotes {
 
         /** Fills the draft: how many items there are, or -10 less the fault. */
         int readText(int letters) {
-            length = Math.min(letters, text.length);
-            place = 0;
-            fault = NO_FAULT;
-            warmthTold = false;
-            draft.beginAnew();
+            begin(letters);
             int items = 0;
-            nextToken();
             // An item has two letters at the least, so the text's length bounds how many there are.
             while (token != END && fault == NO_FAULT && items <= MOST_LETTERS) {
-                readItem(items);
+                switch (token) {
+                    case 'o': readOfficers(items); break;
+                    case 't': readThing(); break;
+                    case 'w': readWarmth(); break;
+                    default: markFault(); break;
+                }
+                readItemEnd();
                 items++;
                 nextToken();
             }
             return fault == NO_FAULT ? items : -10 - fault;
         }
 
-        private void readItem(int itemsAhead) {
-            switch (token) {
-                case 'o': readOfficers(itemsAhead); break;
-                case 't': readThing(); break;
-                case 'w': readWarmth(); break;
-                default: markFault(); break;
-            }
+        private void begin(int letters) {
+            length = Math.min(letters, text.length);
+            place = 0;
+            fault = NO_FAULT;
+            warmthTold = false;
+            draft.beginAnew();
+            nextToken();
+        }
+
+        private void readItemEnd() {
             nextToken();
             if (token != ';') {
                 markFault();

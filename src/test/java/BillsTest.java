@@ -34,6 +34,8 @@ public final class BillsTest {
         Checks.due("2 beside 1", x.free(), 4);
         RegaliaVotes last = Checks.told("t0 1 16 0;");
         Checks.due("bill 4 counts, too", last.free(), 0);
+        RegaliaVotes first = Checks.told("t0 1 1 0;");
+        Checks.due("bill 0 counts, too", first.free(), 0);
         RegaliaVotes no = Checks.told("t0 1 0 0;");
         Checks.due("who is for none", no.free(), 1);
         Checks.due("no things", new RegaliaVotes().free(), 0);

@@ -165,6 +165,10 @@ public final class CouncilTest {
         Checks.due("the sick stay", x.now(3), 4);
         Checks.due("what can be undone stays", x.now(5), 2);
         Checks.due("the image stays", x.back(1), 0);
+        x.clear();
+        Checks.type(x, "w1;t0 1 0 0;");
+        Checks.due("a good text behind a fault", x.council(), 2);
+        Checks.due("its WARMTH", x.count(2), 1);
     }
 
     // Promise 4

@@ -5,6 +5,7 @@ public final class DeedsTest {
 
     public static void main(String[] args) {
         putting();
+        puttingNoMore();
         handing();
         washing();
         hanging();
@@ -35,6 +36,21 @@ public final class DeedsTest {
         Checks.due("puts(-1)", x.puts(-1), BAD);
         Checks.due("puts(5)", x.puts(5), BAD);
         Checks.due("refused ones are not counted", x.now(0), 5);
+    }
+
+    // Promise 9: beyond the 512 calls that are promised, but no other way leads to this refusal
+    private static void puttingNoMore() {
+        RegaliaVotes x = Checks.told("t0 1 1 0;");
+        for (int i = 0; i < 999; i++) {
+            x.puts(i % 2);
+        }
+        Checks.due("999 were put", x.now(0), 999);
+        Checks.due("every other one passed", x.now(1), 500);
+        Checks.due("puts(0)", x.puts(0), STATE);
+        Checks.due("BAD is ahead of STATE", x.puts(5), BAD);
+        Checks.due("still 999", x.now(0), 999);
+        x.undo();
+        Checks.due("puts(0) behind undo()", x.puts(0), 1);
     }
 
     // Promise 10

@@ -43,6 +43,9 @@ public final class PowerTest {
         RegaliaVotes x = Checks.told("t0 4 1 0;t0 3 1 1;t0 2 1 2;t0 1 1 0;");
         Checks.due("least(0)", x.least(0), 3);
         Checks.due("least(1)", x.least(1), 3);
+        RegaliaVotes needless = Checks.told("t0 1 1 0;t0 5 1 1;t0 5 1 2;t0 5 1 1;");
+        Checks.due("without a dummy: least(0)", needless.least(0), 3);
+        Checks.due("without a dummy: least(1)", needless.least(1), 6);
         x.sickens(0, 1);
         Checks.due("the others: least(0)", x.least(0), 1);
         Checks.due("the others: least(1)", x.least(1), 2);
