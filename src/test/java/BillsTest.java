@@ -77,6 +77,9 @@ public final class BillsTest {
         RegaliaVotes two = Checks.told("o2;t0 3 0 0;t0 2 1 1;t0 2 1 1;t0 2 1 1;");
         two.sickens(1, 1);
         Checks.due("of as few the least", two.hand(0), 6);
+        RegaliaVotes alone = Checks.told("o1;t0 3 1 0;");
+        alone.sickens(0, 1);
+        Checks.due("nobody is well to take it", alone.hand(0), NONE);
         Checks.due("hand(-1)", x.hand(-1), BAD);
         Checks.due("hand(5)", x.hand(5), BAD);
     }
