@@ -32,6 +32,18 @@ final class Checks {
         return x;
     }
 
+    /** A text without a fault: how many items it has. */
+    static void items(String text, int items) {
+        RegaliaVotes x = new RegaliaVotes();
+        type(x, text);
+        due("council() of \"" + text + "\"", x.council(), items);
+    }
+
+    /** A text with a fault: its place. */
+    static void fault(String text, int place) {
+        items(text, -10 - place);
+    }
+
     static void end(String name) {
         System.out.println(name + ": " + asked + " answers, " + wrong + " not as due");
         if (wrong != 0 || asked == 0) {

@@ -68,80 +68,66 @@ public final class CouncilTest {
         Checks.due("officers", x.count(1), 3);
     }
 
-    private static int councilOf(String text) {
-        RegaliaVotes x = new RegaliaVotes();
-        Checks.type(x, text);
-        return x.council();
-    }
-
-    private static void items(String text, int items) {
-        Checks.due("council() of \"" + text + "\"", councilOf(text), items);
-    }
-
-    private static void fault(String text, int place) {
-        Checks.due("council() of \"" + text + "\"", councilOf(text), -10 - place);
-    }
-
     // Promise 4
     private static void goodTexts() {
-        items("", 0);
-        items("     ", 0);
-        items("o1;", 1);
-        items("o5;", 1);
-        items("w0;", 1);
-        items("w9;", 1);
-        items("  o  5  ;  w  9  ;  ", 2);
-        items("w3;t0 1 0 2;", 2);
-        items("t3 9 31 2;t0 1 0 0;", 2);
-        items("o5;t0 1 0 4;", 2);
-        items("o1;t0 1 0 0;t0 1 0 0;t0 1 0 0;t0 1 0 0;t0 1 0 0;t0 1 0 0;t0 1 0 0;w2;", 9);
+        Checks.items("", 0);
+        Checks.items("     ", 0);
+        Checks.items("o1;", 1);
+        Checks.items("o5;", 1);
+        Checks.items("w0;", 1);
+        Checks.items("w9;", 1);
+        Checks.items("  o  5  ;  w  9  ;  ", 2);
+        Checks.items("w3;t0 1 0 2;", 2);
+        Checks.items("t3 9 31 2;t0 1 0 0;", 2);
+        Checks.items("o5;t0 1 0 4;", 2);
+        Checks.items("o1;t0 1 0 0;t0 1 0 0;t0 1 0 0;t0 1 0 0;t0 1 0 0;t0 1 0 0;t0 1 0 0;w2;", 9);
     }
 
     // Promise 4
     private static void faults() {
-        fault("o0;", 1);
-        fault("o6;", 1);
-        fault("o", 1);
-        fault("o ", 2);
-        fault("o 3", 3);
-        fault("o 3   ", 6);
-        fault("o 3 4;", 4);
-        fault("o;", 1);
-        fault("o3;o3;", 3);
-        fault("w1;o3;", 3);
-        fault("t0 1 0 0; o3;", 10);
-        fault(";", 0);
-        fault("o3;;", 3);
-        fault("3;", 0);
-        fault("w10;", 1);
-        fault("w1;w1;", 3);
-        fault("w1;w", 3);
-        fault("w00;", 1);
-        fault("w01;", 1);
-        fault("w1;  w1;", 5);
-        fault("t4 1 0 0;", 1);
-        fault("t0 0 0 0;", 3);
-        fault("t0 10 0 0;", 3);
-        fault("t0 1 32 0;", 5);
-        fault("t0 1 031 0;", 5);
-        fault("t0 1 0 3;", 7);
-        fault("o2;t0 1 0 2;", 10);
-        fault("o4;t0 1 0 4;", 10);
-        fault("t0 1 0;", 6);
-        fault("t0 1 0 0 0;", 9);
-        fault("t0 1 0 0 t", 9);
-        fault("t0 1 0 0 ", 9);
-        fault("t0100;", 1);
-        fault("x", 0);
-        fault("  x", 2);
-        fault("O3;", 0);
-        fault("o3\t;", 2);
-        fault("o3,", 2);
-        fault("o-3;", 1);
-        fault("t9 x", 1);
-        fault("w4294967297;", 1);
-        fault("w99999999999999999999999999999999999999999999;", 1);
-        fault("o1;t0 1 0 0;t0 1 0 0;t0 1 0 0;t0 1 0 0;t0 1 0 0;t0 1 0 0;t0 1 0 0;w2;t", 69);
+        Checks.fault("o0;", 1);
+        Checks.fault("o6;", 1);
+        Checks.fault("o", 1);
+        Checks.fault("o ", 2);
+        Checks.fault("o 3", 3);
+        Checks.fault("o 3   ", 6);
+        Checks.fault("o 3 4;", 4);
+        Checks.fault("o;", 1);
+        Checks.fault("o3;o3;", 3);
+        Checks.fault("w1;o3;", 3);
+        Checks.fault("t0 1 0 0; o3;", 10);
+        Checks.fault(";", 0);
+        Checks.fault("o3;;", 3);
+        Checks.fault("3;", 0);
+        Checks.fault("w10;", 1);
+        Checks.fault("w1;w1;", 3);
+        Checks.fault("w1;w", 3);
+        Checks.fault("w00;", 1);
+        Checks.fault("w01;", 1);
+        Checks.fault("w1;  w1;", 5);
+        Checks.fault("t4 1 0 0;", 1);
+        Checks.fault("t0 0 0 0;", 3);
+        Checks.fault("t0 10 0 0;", 3);
+        Checks.fault("t0 1 32 0;", 5);
+        Checks.fault("t0 1 031 0;", 5);
+        Checks.fault("t0 1 0 3;", 7);
+        Checks.fault("o2;t0 1 0 2;", 10);
+        Checks.fault("o4;t0 1 0 4;", 10);
+        Checks.fault("t0 1 0;", 6);
+        Checks.fault("t0 1 0 0 0;", 9);
+        Checks.fault("t0 1 0 0 t", 9);
+        Checks.fault("t0 1 0 0 ", 9);
+        Checks.fault("t0100;", 1);
+        Checks.fault("x", 0);
+        Checks.fault("  x", 2);
+        Checks.fault("O3;", 0);
+        Checks.fault("o3\t;", 2);
+        Checks.fault("o3,", 2);
+        Checks.fault("o-3;", 1);
+        Checks.fault("t9 x", 1);
+        Checks.fault("w4294967297;", 1);
+        Checks.fault("w99999999999999999999999999999999999999999999;", 1);
+        Checks.fault("o1;t0 1 0 0;t0 1 0 0;t0 1 0 0;t0 1 0 0;t0 1 0 0;t0 1 0 0;t0 1 0 0;w2;t", 69);
     }
 
     // Promise 4
