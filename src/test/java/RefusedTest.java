@@ -172,8 +172,10 @@ public final class RefusedTest {
             high[i] = number;
             wrong[i] = number;
             twins.unchanged(shown(face, low), face.refusal, x -> face.numbers.call(x, low));
-            Checks.due(shown(face, high), face.numbers.call(twins.toldObject(), high), face.refusal);
-            Checks.due(shown(face, wrong), face.numbers.call(twins.toldObject(), wrong), face.refusal);
+            if (face.bounds.length > 1) {
+                twins.unchanged(shown(face, high), face.refusal, x -> face.numbers.call(x, high));
+                twins.unchanged(shown(face, wrong), face.refusal, x -> face.numbers.call(x, wrong));
+            }
         }
     }
 
