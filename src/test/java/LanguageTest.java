@@ -6,7 +6,9 @@ import java.nio.charset.StandardCharsets;
 import java.nio.file.Files;
 import java.nio.file.Path;
 import java.util.HashSet;
+import java.util.Map;
 import java.util.Set;
+import java.util.TreeMap;
 import java.util.TreeSet;
 import java.util.regex.Matcher;
 import java.util.regex.Pattern;
@@ -29,8 +31,12 @@ public final class LanguageTest {
         constants();
         String code = withoutComments(Files.readString(Path.of(SOURCE), StandardCharsets.US_ASCII));
         words(code);
+        library(code);
         nestedClasses();
-        methods(code);
+        Map<String, String> bodies = bodies(code);
+        methods(bodies);
+        depth(bodies);
+        objectsMade(bodies);
         Checks.end("LanguageTest");
     }
 
@@ -133,21 +139,81 @@ public final class LanguageTest {
         Checks.holds(type + " has twenty fields at most", ofObject <= 20);
     }
 
-    // Rule 11: methods of some sixty lines, seven parameters at most
-    private static void methods(String code) {
-        Matcher heads = Pattern.compile("(?m)^( +)[A-Za-z][\\w\\[\\] ]*\\(([^()]*)\\) \\{$").matcher(code);
-        int found = 0;
-        while (heads.find()) {
-            String head = heads.group().trim();
-            if (head.matches("(if|for|while|switch|else|return)\\b.*")) {
-                continue;
-            }
-            found++;
-            int end = code.indexOf("\n" + heads.group(1) + "}", heads.end());
-            long lines = code.substring(heads.start(), end).lines().count();
-            Checks.holds(head + " has sixty lines at most", lines <= 60);
-            Checks.holds(head + " has seven parameters at most", heads.group(2).split(",").length <= 7);
+    // Rule 4: what is asked of a class that is not of this file
+    private static void library(String code) {
+        Set<String> own = new HashSet<>();
+        for (Class<?> type : RegaliaVotes.class.getDeclaredClasses()) {
+            own.add(type.getSimpleName());
         }
-        Checks.holds("methods were found", found > 60);
+        Matcher asked = Pattern.compile("\\b([A-Z]\\w*)\\.(\\w+)\\(").matcher(code);
+        int found = 0;
+        while (asked.find()) {
+            found++;
+            boolean isAllowed = own.contains(asked.group(1)) || (asked.group(1) + "." + asked.group(2))
+                    .matches("System\\.arraycopy|Arrays\\.(copyOf|copyOfRange|fill)|(Math|Integer|Long)\\.\\w+(?<!Exact)");
+            Checks.holds(asked.group() + " stands in rule 4", isAllowed);
+        }
+        Checks.holds("calls of the library were found", found > 10);
+    }
+
+    /** Every method and constructor by its name, with the bodies of all that bear it. */
+    private static Map<String, String> bodies(String code) {
+        Map<String, String> bodies = new TreeMap<>();
+        Matcher heads = Pattern.compile("(?m)^( +)(?:[\\w\\[\\]]+ )*(\\w+)\\([^()]*\\) \\{$").matcher(code);
+        while (heads.find()) {
+            if (!heads.group(2).matches("if|for|while|switch")) {
+                int end = code.indexOf("\n" + heads.group(1) + "}", heads.end());
+                bodies.merge(heads.group(2), code.substring(heads.end(), end), (one, other) -> one + "\n" + other);
+            }
+        }
+        Checks.holds("methods were found", bodies.size() > 90);
+        for (Method method : RegaliaVotes.class.getDeclaredMethods()) {
+            Checks.holds("the body of " + method.getName() + "() was found", bodies.containsKey(method.getName()));
+        }
+        return bodies;
+    }
+
+    // Rule 11: methods of some sixty lines, seven parameters at most
+    private static void methods(Map<String, String> bodies) {
+        for (Map.Entry<String, String> method : bodies.entrySet()) {
+            Checks.holds(method.getKey() + "() has sixty lines at most", method.getValue().lines().count() <= 60);
+        }
+        for (Class<?> type : RegaliaVotes.class.getDeclaredClasses()) {
+            for (Method method : type.getDeclaredMethods()) {
+                Checks.holds(method + " has seven parameters at most", method.getParameterCount() <= 7);
+            }
+        }
+    }
+
+    // Rules 8, 11: no recursion, and calls go at most eight deep
+    private static void depth(Map<String, String> bodies) {
+        for (Method method : RegaliaVotes.class.getDeclaredMethods()) {
+            int depth = depthOf(method.getName(), bodies, 0);
+            Checks.holds(method.getName() + "() goes " + depth + " deep, at most eight are due", depth <= 8);
+        }
+    }
+
+    private static int depthOf(String name, Map<String, String> bodies, int callers) {
+        // A method that calls itself, or is called by what it calls, would go beyond any depth.
+        if (callers > 20) {
+            return 1;
+        }
+        int deepest = 0;
+        Matcher calls = Pattern.compile("\\b(\\w+)\\(").matcher(bodies.get(name));
+        Set<String> called = new HashSet<>();
+        while (calls.find()) {
+            if (bodies.containsKey(calls.group(1)) && called.add(calls.group(1))) {
+                deepest = Math.max(deepest, depthOf(calls.group(1), bodies, callers + 1));
+            }
+        }
+        return deepest + 1;
+    }
+
+    // Rule 12: objects and arrays are made where an object is made, by no call
+    private static void objectsMade(Map<String, String> bodies) {
+        for (Map.Entry<String, String> method : bodies.entrySet()) {
+            boolean isConstructor = Character.isUpperCase(method.getKey().charAt(0));
+            Checks.holds(method.getKey() + "() makes no object", isConstructor || !method.getValue().contains("new "));
+        }
     }
 }
