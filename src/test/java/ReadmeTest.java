@@ -13,7 +13,7 @@ import java.util.regex.Pattern;
 import javax.tools.JavaCompiler;
 import javax.tools.ToolProvider;
 
-/** What README.md shows as an example is compiled and run as it stands there, and answers as it says. */
+/** What README.md shows as an example is compiled and run, and answers as it says there. */
 public final class ReadmeTest {
     private static final Pattern SHOWN = Pattern.compile("(x\\.(\\w+)\\(.*\\)); +// (-?\\d+): .*");
 
